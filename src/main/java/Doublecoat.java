@@ -758,24 +758,25 @@ public final class Doublecoat {
             for (int player = 0; player < MOST_PLAYERS; player++) {
                 roles[player] = 0;
             }
-            return canPlaceFrom(0, mostPlayers);
+            return canPlaceFrom(this, 0, mostPlayers);
         }
 
-        private boolean canPlaceFrom(int depth, int newPlayers) {
-            if (depth >= ordered) {
+        /** The depth ends with the parts in order, of which there are seven at most. */
+        private static boolean canPlaceFrom(Casting at, int depth, int newPlayers) {
+            if (depth >= at.ordered) {
                 return true;
             }
-            int part = order[depth];
+            int part = at.order[depth];
             for (int player = 0; player < MOST_PLAYERS; player++) {
-                int fresh = roles[player] == 0 ? 1 : 0;
-                if (!has(able[part], player) || (roles[player] & clash[part]) != 0 || fresh > newPlayers) {
+                int fresh = at.roles[player] == 0 ? 1 : 0;
+                if (!has(at.able[part], player) || (at.roles[player] & at.clash[part]) != 0 || fresh > newPlayers) {
                     continue;
                 }
-                roles[player] |= 1 << part;
-                if (canPlaceFrom(depth + 1, newPlayers - fresh)) {
+                at.roles[player] |= 1 << part;
+                if (canPlaceFrom(at, depth + 1, newPlayers - fresh)) {
                     return true;
                 }
-                roles[player] &= ~(1 << part);
+                at.roles[player] &= ~(1 << part);
             }
             return false;
         }
