@@ -1,3 +1,6 @@
+import java.util.LinkedHashSet;
+import java.util.Set;
+
 /** Counts answers that are not as due, and ends a test with exit code 1 if there was one. */
 final class Check {
     interface Call {
@@ -7,11 +10,25 @@ final class Check {
     private static final int SHOWN = 40;
 
     private final String name;
+    private final Set<String> said = new LinkedHashSet<>();
+    private String sentence = "";
     private int asked;
     private int wrong;
 
     Check(String name) {
         this.name = name;
+    }
+
+    /** What is asked from here on is asked for this sentence of the document. */
+    void says(String place, String words) {
+        sentence = place + ": " + words;
+        said.add(sentence);
+    }
+
+    /** All sentences that were asked for; what is asked from here on is asked for none. */
+    Set<String> said() {
+        sentence = "";
+        return said;
     }
 
     void due(String call, Object want, Call made) {
@@ -21,6 +38,9 @@ final class Check {
             wrong++;
             if (wrong <= SHOWN) {
                 System.out.println(name + ": " + call + " answered " + got + ", due is " + want);
+                if (!sentence.isEmpty()) {
+                    System.out.println("  where the document says of " + sentence);
+                }
             }
         }
     }
@@ -63,7 +83,8 @@ final class Check {
 
     private static String line() {
         for (StackTraceElement at : Thread.currentThread().getStackTrace()) {
-            if (!at.getClassName().equals("Check") && !at.getClassName().startsWith("java.")) {
+            String in = at.getClassName();
+            if (!in.equals("Check") && !in.equals("Cases") && !in.startsWith("java.")) {
                 return at.getFileName() + ":" + at.getLineNumber();
             }
         }

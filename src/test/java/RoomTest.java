@@ -2,7 +2,8 @@ import java.lang.management.ManagementFactory;
 
 /** What the calls make is little: all calls of a run live in one room. */
 public final class RoomTest {
-    private static final int CALLS = 512;
+    /** With those that tell all there may be, these are no more than the 512 that an object answers. */
+    private static final int CALLS = 480;
     private static final long MOST_BYTES_OF_ONE = 16_000;
     private static final long MOST_BYTES_OF_CALLS = CALLS * 200L;
 
