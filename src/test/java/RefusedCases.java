@@ -25,7 +25,7 @@ final class RefusedCases extends Cases {
         int told = 7 + 5 + 6 + 6 + 5 + 5;
         String cast = dear.cast();
         for (int k = told + 1; k < 510; k++) dear.pause(k % 6, k % 10);
-        for (int k = 0; k < 2; k++) dear.digest();
+        dear.digest();
         due(full(), cast, y -> y.cast());
         Doublecoat same = full();
         for (int scene = 0; scene < 6; scene++) same.pause(scene, last(scene, told));

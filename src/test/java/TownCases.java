@@ -230,9 +230,9 @@ final class TownCases extends Cases {
         dueNight(1, new int[] {1, 1, 1, 1, 1}, 1, 0, 0, 0, 0);
         dueNight(4, new int[] {3, 3, 3, 3, 3}, 1, 1, 1, 1, 0);
         dueNight(999, new int[] {2, 2, 2, 2, 2}, 200, 200, 200, 200, 199);
-        // like rests of unlike shares: by 10, 6 and 4 parts of each are 12, 8 ... by hand: 2 * 1, 2 * 1, 2 * 4, 2 * 4
+        // by 10: 2, 2, 8 and 8, and two are left
         dueNight(2, new int[] {1, 1, 4, 4}, 0, 0, 1, 1);
-        // by 6: 3, 15, so that both rests are 3: the smaller number has it, whatever its share
+        // by 6: 3 and 15, so that both rests are 3: the smaller number has it, whatever its share
         dueNight(3, new int[] {1, 5}, 1, 2);
         dueNight(3, new int[] {5, 1}, 3, 0);
     }
