@@ -3,7 +3,7 @@ final class State {
     private State() {
     }
 
-    /** These are some 300 calls, of the 512 that an object answers. */
+    /** These are some 370 calls at most, of the 512 that an object answers. */
     static String of(Doublecoat x) {
         StringBuilder all = new StringBuilder("house");
         for (int what = 0; what <= 13; what++) all.append(' ').append(x.house(what));
